@@ -67,7 +67,7 @@ public final class DollGarlands {
         if (left == oldLeft && right == oldRight) {
             return NONE;
         }
-        history.record(table);
+        history.remember(table);
         table.putHands(kind, left, right);
         return 10 * oldLeft + oldRight;
     }
@@ -87,7 +87,7 @@ public final class DollGarlands {
         if (rule == oldRule) {
             return NONE;
         }
-        history.record(table);
+        history.remember(table);
         table.putRule(rule);
         return oldRule;
     }
@@ -103,7 +103,7 @@ public final class DollGarlands {
         if (kinds == oldKinds) {
             return NONE;
         }
-        history.record(table);
+        history.remember(table);
         table.putKinds(kinds);
         return oldKinds;
     }
@@ -118,7 +118,7 @@ public final class DollGarlands {
         if (fresh == NO_NUMBER) {
             return FULL;
         }
-        history.record(table);
+        history.remember(table);
         table.putDoll(fresh, 0, dollOf(kind, mirrored));
         table.putLength(fresh, 1);
         return fresh;
@@ -139,7 +139,7 @@ public final class DollGarlands {
         if (joined > MOST_DOLLS) {
             return FULL;
         }
-        history.record(table);
+        history.remember(table);
         table.copyDolls(other, 0, garland, length, joined - length);
         table.putLength(garland, joined);
         table.putLength(other, 0);
@@ -158,7 +158,7 @@ public final class DollGarlands {
         if (fresh == NO_NUMBER) {
             return FULL;
         }
-        history.record(table);
+        history.remember(table);
         table.copyDolls(garland, place, fresh, 0, length - place);
         table.putLength(fresh, length - place);
         table.putLength(garland, place);
@@ -172,7 +172,7 @@ public final class DollGarlands {
         if (looks.isOwnMirror(garland)) {
             return NONE;
         }
-        history.record(table);
+        history.remember(table);
         table.turnRound(garland);
         return looks.mirroredIn(garland);
     }
@@ -189,7 +189,7 @@ public final class DollGarlands {
         if (folded > MOST_DOLLS) {
             return FULL;
         }
-        history.record(table);
+        history.remember(table);
         table.foldOut(garland);
         return folded;
     }
@@ -199,7 +199,7 @@ public final class DollGarlands {
             return UNKNOWN;
         }
         int length = table.lengthOf(garland);
-        history.record(table);
+        history.remember(table);
         table.putLength(garland, 0);
         return length;
     }
@@ -233,7 +233,7 @@ public final class DollGarlands {
         if (fresh == NO_NUMBER) {
             return FULL;
         }
-        history.record(table);
+        history.remember(table);
         table.hangUp(fresh, bench, length);
         return fresh;
     }
@@ -258,7 +258,7 @@ public final class DollGarlands {
         if (!hasSnapshot) {
             return NONE;
         }
-        history.record(table);
+        history.remember(table);
         table.loadFrom(snapshot, 0);
         return looks.garlands();
     }
@@ -952,7 +952,7 @@ public final class DollGarlands {
             return (oldest + state) % MOST_STATES * Table.SIZE;
         }
 
-        void record(Table table) {
+        void remember(Table table) {
             if (recorded == MOST_STATES) {
                 oldest = (oldest + 1) % MOST_STATES;
                 recorded--;

@@ -13,6 +13,7 @@ public final class GarlandsTest {
         joinTooLong();
         cutApart();
         cutApartErrors();
+        neighboursStay();
         turn();
         fold();
         foldErrors();
@@ -155,6 +156,27 @@ public final class GarlandsTest {
         Check.garland(x, 0, "0,0,1");
         x.takeAway(7);
         Check.due("7: the last number", x.cutApart(0, 2), 7);
+    }
+
+    private static void neighboursStay() {
+        DollGarlands x = new DollGarlands();
+        Check.read(x, Check.many("0", 15));
+        Check.read(x, Check.many("0'", 20));
+        Check.read(x, Check.many("1", 16) + ",2");
+        Check.due("6: 32 dolls", x.join(0, 2), 32);
+        Check.garland(x, 0, Check.many("0", 15) + "," + Check.many("1", 16) + ",2");
+        Check.garland(x, 1, Check.many("0'", 20));
+        Check.due("7: nearly all", x.cutApart(0, 1), 2);
+        Check.due("7: the last doll", x.cutApart(2, 30), 3);
+        x.takeAway(0);
+        Check.due("7: the last doll", x.cutApart(2, 29), 0);
+        Check.garland(x, 0, "1");
+        Check.garland(x, 1, Check.many("0'", 20));
+        Check.garland(x, 2, Check.many("0", 14) + "," + Check.many("1", 15));
+        Check.garland(x, 3, "2");
+        Check.due("8: turn(2)", x.turn(2), 29);
+        Check.garland(x, 1, Check.many("0'", 20));
+        Check.garland(x, 3, "2");
     }
 
     private static void turn() {

@@ -173,6 +173,12 @@ public final class KindsTest {
         Check.due("4: just enough", x.setKinds(5), 10);
         x.takeAway(1);
         Check.due("4: without it", x.setKinds(1), 5);
+        DollGarlands y = new DollGarlands();
+        Check.read(y, "2',0");
+        Check.read(y, "0");
+        Check.due("4: the first doll of the first garland", y.setKinds(2), DollGarlands.NOT_POSSIBLE);
+        y.takeAway(0);
+        Check.due("4: without it", y.setKinds(1), 3);
     }
 
     private static void setKindsKeepsHands() {

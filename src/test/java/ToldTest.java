@@ -18,6 +18,7 @@ public final class ToldTest {
         waysErrors();
         longest();
         count();
+        countMeetings();
         countDifferent();
         Check.finish();
     }
@@ -205,6 +206,22 @@ public final class ToldTest {
         x.setHands(5, 0, 1);
         Check.due("21: 5', no hand at its right", x.between(0, 1), 1);
         Check.due("21: 5, no hand at its left", x.between(1, 0), 1);
+        // The kinds 0 and 3 alone lead from the hand 1 to the hand 3.
+        DollGarlands y = new DollGarlands();
+        y.setRule(2);
+        y.setKinds(4);
+        y.setHands(0, 1, 2);
+        y.setHands(1, 1, 1);
+        y.setHands(2, 3, 3);
+        y.setHands(3, 2, 3);
+        Check.read(y, "1");
+        Check.read(y, "2");
+        Check.due("21: 0, 3", y.between(0, 1), 2);
+        Check.due("21: 3', 0'", y.between(1, 0), 2);
+        y.setHands(0, 2, 1);
+        Check.due("21: 0', 3", y.between(0, 1), 2);
+        y.setHands(3, 3, 2);
+        Check.due("21: 3, 0", y.between(1, 0), 2);
     }
 
     private static void ways() {
@@ -320,6 +337,27 @@ public final class ToldTest {
             Check.due("24: count(" + far + ")", x.count(far), DollGarlands.BAD_VALUE);
         }
         Check.due("24: count(10)", x.count(10), DollGarlands.BAD_VALUE);
+    }
+
+    private static void countMeetings() {
+        DollGarlands x = new DollGarlands();
+        Check.read(x, "0,0");
+        Check.due("24: a hand and none", x.count(6), 0);
+        Check.read(x, "0',0'");
+        Check.due("24: none and a hand", x.count(6), 0);
+        Check.read(x, "0',0");
+        Check.due("24: none and none", x.count(6), 0);
+        Check.due("24: the third is its own mirror image", x.count(3), 1);
+        Check.read(x, "0,1,2,1");
+        Check.due("24: three times both", x.count(6), 3);
+        x.setHands(2, 0, 0);
+        Check.due("24: once both", x.count(6), 1);
+        x.takeAway(3);
+        Check.read(x, "2,1,1,2,1,1");
+        Check.due("24: twice both", x.count(6), 2);
+        x.takeAway(0);
+        Check.read(x, "0',0");
+        Check.due("24: the first and the third", x.count(3), 2);
     }
 
     private static void countDifferent() {
