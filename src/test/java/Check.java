@@ -1,16 +1,40 @@
 /** What the tests share: each answer is compared with the one that is due, and the wrong ones are counted. */
 final class Check {
+    private static final int MOST_TOLD = 40;
+
     private static int asked = 0;
     private static int wrong = 0;
+    private static int sentences = 0;
+    private static String sentence = "";
 
     private Check() {
+    }
+
+    /** Names the sentence of the document that the next answers are about. */
+    static void sentence(String words) {
+        sentence = words + ": ";
+        sentences++;
     }
 
     static void due(String call, long got, long want) {
         asked++;
         if (got != want) {
-            wrong++;
-            System.out.println(call + " answered " + got + ", due is " + want);
+            tell(call + " answered " + got + ", due is " + want);
+        }
+    }
+
+    static void same(String what, String got, String want) {
+        asked++;
+        if (!got.equals(want)) {
+            tell(what + " is " + got + ", due is " + want);
+        }
+    }
+
+    /** A broken sentence may give thousands of wrong answers: the first ones of a test tell which it is. */
+    private static void tell(String fault) {
+        wrong++;
+        if (wrong <= MOST_TOLD) {
+            System.out.println(sentence + fault);
         }
     }
 
@@ -30,7 +54,8 @@ final class Check {
     /** Tells a garland as a text, or "-" if there is none. */
     static String told(DollGarlands x, int garland) {
         StringBuilder text = new StringBuilder();
-        for (int place = 0; place < x.garland(garland, 0); place++) {
+        int length = x.garland(garland, 0);
+        for (int place = 0; place < length; place++) {
             text.append(place == 0 ? "" : ",").append(x.doll(garland, place, 0));
             text.append(x.doll(garland, place, 1) == 1 ? "'" : "");
         }
@@ -38,12 +63,7 @@ final class Check {
     }
 
     static void garland(DollGarlands x, int garland, String want) {
-        String got = told(x, garland);
-        asked++;
-        if (!got.equals(want)) {
-            wrong++;
-            System.out.println("garland " + garland + " is " + got + ", due is " + want);
-        }
+        same("garland " + garland, told(x, garland), want);
     }
 
     /** A garland's text of the doll, over and over. */
@@ -56,7 +76,8 @@ final class Check {
     }
 
     static void finish() {
-        System.out.println(asked + " answers asked, " + wrong + " wrong");
+        String about = sentences == 0 ? "" : " about " + sentences + " sentences";
+        System.out.println(asked + " answers asked" + about + ", " + wrong + " wrong");
         if (wrong != 0 || asked == 0) {
             System.exit(1);
         }

@@ -44,7 +44,9 @@ public final class LanguageTest {
             String edge = Character.isLetter(word.charAt(0)) ? "\\b" : "";
             Check.holds("rules 3 to 6: no " + word, !Pattern.compile(edge + Pattern.quote(word) + edge).matcher(code).find());
         }
+        library(code);
         face();
+        fields();
         LanguageTest test = new LanguageTest(code);
         test.methods();
         test.depths();
@@ -55,6 +57,40 @@ public final class LanguageTest {
     private static String withoutComments(String source) {
         String code = Pattern.compile("/\\*.*?\\*/", Pattern.DOTALL).matcher(source).replaceAll("");
         return code.replaceAll("//[^\n]*", "");
+    }
+
+    /** Names with a point behind a class: its own classes', arraycopy, and functions of Math that never throw. */
+    private static void library(String code) {
+        Set<String> own = new HashSet<>();
+        for (Class<?> each : DollGarlands.class.getDeclaredClasses()) {
+            own.add(each.getSimpleName());
+        }
+        Matcher name = Pattern.compile("\\b([A-Z][a-z]\\w*)\\.(\\w+)").matcher(code);
+        while (name.find()) {
+            boolean arraycopy = name.group().equals("System.arraycopy");
+            boolean math = name.group(1).equals("Math") && !name.group(2).endsWith("Exact");
+            Check.holds("rule 4: " + name.group(), own.contains(name.group(1)) || arraycopy || math);
+        }
+        Check.holds("rule 10: texts are not joined by +", !Pattern.compile("\"\\s*\\+|\\+=?\\s*\"").matcher(code).find());
+        Check.holds("rule 2: no class without a name", DollGarlands.class.getResource("DollGarlands$1.class") == null);
+    }
+
+    private static void fields() {
+        List<Class<?>> all = new ArrayList<>(List.of(DollGarlands.class.getDeclaredClasses()));
+        all.add(DollGarlands.class);
+        Set<Class<?>> constants = Set.of(int.class, long.class, boolean.class, char.class, String.class, int[].class,
+            long[].class, char[].class, byte[].class);
+        for (Class<?> each : all) {
+            int beside = 0;
+            for (Field field : each.getDeclaredFields()) {
+                if (Modifier.isStatic(field.getModifiers())) {
+                    Check.holds("rule 5: " + field, Modifier.isFinal(field.getModifiers()) && constants.contains(field.getType()));
+                } else {
+                    beside++;
+                }
+            }
+            Check.holds("rule 11: fields of " + each, beside <= 20);
+        }
     }
 
     private static void face() {
@@ -160,7 +196,7 @@ public final class LanguageTest {
         long before = beans.getCurrentThreadAllocatedBytes();
         long idle = beans.getCurrentThreadAllocatedBytes() - before;
         before = beans.getCurrentThreadAllocatedBytes();
-        for (int round = 0; round < 10; round++) {
+        for (int round = 0; round < 4; round++) {
             callAll(x);
         }
         long made = beans.getCurrentThreadAllocatedBytes() - before - idle;
