@@ -33,6 +33,7 @@ public final class ActsEdgesTest {
         typeAndClearTell();
         readGarlandKinds();
         readGarlandText();
+        readGarlandShorterText();
         undoTells();
         keepAndRestoreTell();
         Check.finish();
@@ -492,6 +493,22 @@ public final class ActsEdgesTest {
         Check.due("a character more", x.type('2'), 9);
         Check.due("readGarland() of the longer one", x.readGarland(), 3);
         Check.garland(x, 3, "0',0,1',2");
+    }
+
+    private static void readGarlandShorterText() {
+        Check.sentence("readGarland makes a new garland of the text, not of one that was");
+        DollGarlands x = Tables.withKinds(10);
+        Check.due("a longer one", Check.read(x, "0,9'," + Check.many("0", 30)), 0);
+        Check.due("it is taken away", x.takeAway(0), 32);
+        Check.due("fewer kinds", x.setKinds(3), 10);
+        Check.due("one doll", Check.read(x, "0"), 0);
+        Check.garland(x, 0, "0");
+        Check.due("hands that clash", Check.read(x, "0,1,1'"), DollGarlands.NOT_POSSIBLE);
+        Check.due("without the last doll", Check.read(x, "0,1"), 1);
+        Check.garland(x, 1, "0,1");
+        Check.due("no kind", Check.read(x, "1,2,3"), DollGarlands.UNKNOWN);
+        Check.due("without the last doll", Check.read(x, "1,2"), 2);
+        Check.garland(x, 2, "1,2");
     }
 
     private static void undoTells() {

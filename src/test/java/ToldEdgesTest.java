@@ -22,6 +22,7 @@ public final class ToldEdgesTest {
         garlandRepeatToldApart();
         garlandLowestAlike();
         garlandLowestAlikeDollByDoll();
+        garlandOfWhatIsLeft();
         dollWhat();
         dollAtEachPlace();
         reasonTooLong();
@@ -271,6 +272,31 @@ public final class ToldEdgesTest {
             // The mirror image of that with the kind 3 at the opposite place, which is this one or another.
             Check.due("of the mirror image", y.garland(4, 7), place == dolls.length - 1 - place ? 2 : 4);
         }
+    }
+
+    private static void garlandOfWhatIsLeft() {
+        Check.sentence("garland: what is told is of the dolls that are there, not of those that were");
+        DollGarlands x = Tables.withoutHands(3, "1,0,2'," + Check.many("2", 29), "1", Check.many("0,2'", 16), "1'");
+        x.cutApart(0, 1);
+        x.takeAway(4);
+        x.cutApart(2, 31);
+        x.takeAway(4);
+        int[][] due = {{1, 0, 0, 0, 2, 0, 1, 0}, {1, 0, 0, 0, 2, 0, 1, 0}, {31, 0, 0, 15, 5, 0, 2, 2}, {1, 0, 0, 1, 2, 0, 1, 0}};
+        for (int garland = 0; garland < due.length; garland++) {
+            for (int what = 0; what <= 7; what++) {
+                Check.due("garland(" + garland + ", " + what + ")", x.garland(garland, what), due[garland][what]);
+            }
+        }
+        int[] counts = {4, 34, 16, 0, 0, 3, 0, 2};
+        for (int what = 0; what < counts.length; what++) {
+            Check.due("count(" + what + ")", x.count(what), counts[what]);
+        }
+        Check.due("dolls of 2", x.kind(2, 2), 15);
+        Check.due("dolls of 0", x.kind(0, 2), 16);
+        Check.due("longest()", x.longest(), 2);
+        x.setHands(1, 3, 3);
+        x.setHands(2, 3, 3);
+        Check.due("places where two hands meet", x.count(6), 0);
     }
 
     private static void dollWhat() {
@@ -621,6 +647,10 @@ public final class ToldEdgesTest {
             Check.due("31 dolls", x.longest(), longest);
             x.join(longest, longest == 1 ? 2 : 1);
             Check.due("32 dolls", x.longest(), longest);
+        }
+        for (int kind = 0; kind <= 9; kind++) {
+            Check.due("one doll of the kind " + kind, Tables.withKinds(10, kind + "'").longest(), 0);
+            Check.due("two dolls beside it", Tables.withKinds(10, kind + "'", "0,1", "1").longest(), 1);
         }
         Check.due("one more doll", Tables.of(Check.many("0", 31), Check.many("0", 32)).longest(), 1);
         Check.due("one doll less", Tables.of(Check.many("0", 32), Check.many("0", 31)).longest(), 0);
