@@ -22,6 +22,7 @@ public final class ToldEdgesTest {
         garlandRepeatToldApart();
         garlandLowestAlike();
         garlandLowestAlikeDollByDoll();
+        garlandLowestAlikeOf32Dolls();
         garlandOfWhatIsLeft();
         dollWhat();
         dollAtEachPlace();
@@ -31,6 +32,7 @@ public final class ToldEdgesTest {
         betweenNoneMust();
         betweenOfTheRules0And1();
         betweenOfTheRule2();
+        betweenOfEachKind();
         betweenOfTheKindsThereAre();
         betweenTheSameOnceMore();
         betweenHoweverLong();
@@ -274,9 +276,26 @@ public final class ToldEdgesTest {
         }
     }
 
+    private static void garlandLowestAlikeOf32Dolls() {
+        Check.sentence("garland: 7, the same or its mirror image, of 32 dolls, whatever hangs beside");
+        String text = "1," + Check.many("0", 31);
+        DollGarlands x = Tables.withoutHands(3, "2'", text, "2", text, "1");
+        Check.due("the same", x.garland(3, 7), 1);
+        x.turn(1);
+        Check.due("its mirror image", x.garland(3, 7), 1);
+        x.turn(3);
+        Check.due("both turned round", x.garland(3, 7), 1);
+        Check.due("different ones", x.count(7), 3);
+        x.takeAway(2);
+        Check.due("the last doll another", Check.read(x, text.substring(0, 62) + "2"), 2);
+        Check.due("the last doll another", x.garland(2, 7), 2);
+        x.turn(2);
+        Check.due("the first doll another", x.garland(2, 7), 2);
+    }
+
     private static void garlandOfWhatIsLeft() {
         Check.sentence("garland: what is told is of the dolls that are there, not of those that were");
-        DollGarlands x = Tables.withoutHands(3, "1,0,2'," + Check.many("2", 29), "1", Check.many("0,2'", 16), "1'");
+        DollGarlands x = Tables.withoutHands(3, "1,2',0," + Check.many("2", 29), "1", Check.many("0,2'", 16), "1'");
         x.cutApart(0, 1);
         x.takeAway(4);
         x.cutApart(2, 31);
@@ -453,6 +472,35 @@ public final class ToldEdgesTest {
         y.cutDoll(1, false);
         Check.due("three steps from 2", y.between(0, 1), 3);
         Check.due("three steps to 2", y.between(1, 0), 3);
+    }
+
+    private static void betweenOfEachKind() {
+        Check.sentence("between: a doll of each kind, as cut or mirrored, may be the only one that serves");
+        for (int first = 0; first <= 9; first++) {
+            for (int mirrored = 0; mirrored <= 7; mirrored++) {
+                DollGarlands x = Tables.withKinds(10);
+                x.setRule(2);
+                for (int kind = 0; kind <= 9; kind++) {
+                    x.setHands(kind, 5, 5);
+                }
+                int[] steps = {first, (first + 3) % 10, (first + 6) % 10};
+                for (int step = 0; step < 3; step++) {
+                    boolean asCut = (mirrored >> step & 1) == 0;
+                    x.setHands(steps[step], asCut ? step + 1 : step + 2, asCut ? step + 2 : step + 1);
+                }
+                int from = (first + 1) % 10;
+                int to = (first + 2) % 10;
+                x.setHands(from, 1, 1);
+                x.setHands(to, 4, 4);
+                x.cutDoll(from, false);
+                x.cutDoll(to, false);
+                String which = "from " + from + " to " + to + " by " + Arrays.toString(steps) + ", " + mirrored;
+                Check.due(which, x.between(0, 1), 3);
+                Check.due(which + ", back", x.between(1, 0), 3);
+                x.setHands(steps[mirrored % 3], 5, 5);
+                Check.due(which + ", a step missing", x.between(0, 1), NONE);
+            }
+        }
     }
 
     private static void betweenOfTheKindsThereAre() {
