@@ -23,6 +23,7 @@ public final class ToldEdgesTest {
         garlandLowestAlike();
         garlandLowestAlikeDollByDoll();
         garlandLowestAlikeOf32Dolls();
+        garlandAlone();
         garlandOfWhatIsLeft();
         dollWhat();
         dollAtEachPlace();
@@ -291,6 +292,20 @@ public final class ToldEdgesTest {
         Check.due("the last doll another", x.garland(2, 7), 2);
         x.turn(2);
         Check.due("the first doll another", x.garland(2, 7), 2);
+    }
+
+    private static void garlandAlone() {
+        Check.sentence("garland: 7, itself, if there is no lower one");
+        String[] dolls = {"0", "0'", "1", "1'", "2", "2'"};
+        for (int number = 0; number < 6 * 6 * 6 * 6; number++) {
+            String text = dolls[number % 6] + "," + dolls[number / 6 % 6];
+            text += "," + dolls[number / 36 % 6] + "," + dolls[number / 216];
+            DollGarlands x = new DollGarlands();
+            if (Check.read(x, text) == 0) {
+                Check.due("garland(0, 7) of " + text, x.garland(0, 7), 0);
+                Check.due("count(7) of " + text, x.count(7), 1);
+            }
+        }
     }
 
     private static void garlandOfWhatIsLeft() {
