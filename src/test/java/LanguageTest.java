@@ -116,6 +116,10 @@ public final class LanguageTest {
                 got.add(field.getName() + "=" + constant(field));
             }
         }
+        for (Method method : DollGarlands.class.getDeclaredMethods()) {
+            boolean isPrivate = Modifier.isPrivate(method.getModifiers());
+            Check.holds("rule 1: the name of " + method, !isPrivate || !publicNames.contains(method.getName()));
+        }
         Check.holds("rule 1: the face is " + got, got.equals(want));
         Check.holds("rule 1: public and final", Modifier.isFinal(DollGarlands.class.getModifiers()));
         Class<?>[] inside = DollGarlands.class.getDeclaredClasses();
